@@ -6,8 +6,7 @@ public final class PostageCounter {
     private static final int PLACES = 10, WAYS = 6, EXTRAS = 4, ALL_EXTRAS = 15;
     private static final int MOST_FACE = 500, MOST_LOOSE = 60, MOST_REEL = 40, MOST_SIDE = 8, SQUARES = 64;
     private static final int MOST_STEPS = 8, MOST_GRAMS = 5000, MOST_STEP_PRICE = 1200, MOST_EXTRA_PRICE = 200;
-    private static final int MOST_LETTERS = 60, MOST_PRICE = 2000, MOST_SUM = 2500, MOST_ACTS = 32;
-    private static final float MOST_WEIGHT = 1000000f;
+    private static final int MOST_WEIGHT = 1000000, MOST_LETTERS = 60, MOST_PRICE = 2000, MOST_SUM = 2500, MOST_ACTS = 32;
     /** The most that stamps which are given together pay: a pair of the greatest face. */
     private static final int MOST_TOGETHER = 2 * MOST_FACE;
 
@@ -263,10 +262,7 @@ public final class PostageCounter {
     public int day(int what) {
         switch (what) {
             case 0: return now.letters.length;
-            case 1:
-            case 2:
-            case 3:
-            case 4: return dayOfPaid(what);
+            case 1: case 2: case 3: case 4: return dayOfPaid(what);
             case 5: return now.stamps();
             case 6: return now.worth();
             case 7: return now.piecesOfSheets();
@@ -322,7 +318,7 @@ public final class PostageCounter {
 
     /** Written so that what is no number is no weight. */
     private static boolean isWeight(float weight) {
-        return weight >= 0f && weight <= MOST_WEIGHT;
+        return weight >= 0f && weight <= (float) MOST_WEIGHT;
     }
 
     private static int wholeGrams(float weight) {
@@ -438,12 +434,10 @@ public final class PostageCounter {
             this.old = old;
         }
 
-        @Override
         int kind() {
             return OVER;
         }
 
-        @Override
         Plain without(int n, long squaresTorn) {
             return new Over(old, face, count - n);
         }
@@ -459,7 +453,6 @@ public final class PostageCounter {
             this.faces = faces;
         }
 
-        @Override
         int kind() {
             return STRIP;
         }
@@ -468,7 +461,6 @@ public final class PostageCounter {
             return within(i, 0, count - 1) && i < faces.length ? faces[i] : INDEX;
         }
 
-        @Override
         int worth(int n) {
             int sum = 0;
             for (int i = Math.max(0, count - n); i < count && i < faces.length; i++) {
@@ -477,7 +469,6 @@ public final class PostageCounter {
             return sum;
         }
 
-        @Override
         int ofFace(int wanted, int n) {
             int found = 0;
             for (int i = Math.max(0, count - n); i < count && i < faces.length; i++) {
@@ -488,7 +479,6 @@ public final class PostageCounter {
             return found;
         }
 
-        @Override
         Plain without(int n, long squaresTorn) {
             return new Strip(faces, count - n);
         }
@@ -501,6 +491,8 @@ public final class PostageCounter {
         final int missing;
         /** A bit for each square that has a stamp. */
         final long squares;
+        private final long firstColumn;
+        private final long lastColumn;
 
         Block(int face, int rows, int columns, int missing, long squares) {
             super(face, Long.bitCount(squares));
@@ -508,9 +500,18 @@ public final class PostageCounter {
             this.columns = columns;
             this.missing = missing;
             this.squares = squares;
+            this.firstColumn = firstColumnOf(rows, columns);
+            this.lastColumn = firstColumn << (columns - 1);
         }
 
-        @Override
+        private static long firstColumnOf(int rows, int columns) {
+            long column = 0L;
+            for (int row = 0; row < rows; row++) {
+                column |= 1L << (row * columns);
+            }
+            return column;
+        }
+
         int kind() {
             return BLOCK;
         }
@@ -521,12 +522,12 @@ public final class PostageCounter {
 
         /** The squares with a stamp that are given together and numbered by this one; 0: none. */
         long unitAt(int square) {
-            return squares & 1L << square;
+            return squares & (1L << square);
         }
 
         final Block withoutRow(int row) {
-            long ofRow = (1L << columns) - 1 << row * columns;
-            return changed(missing | 1 << row, squares & ~ofRow);
+            long ofRow = ((1L << columns) - 1) << (row * columns);
+            return changed(missing | (1 << row), squares & ~ofRow);
         }
 
         /** 0: the row can be looked at. */
@@ -534,7 +535,7 @@ public final class PostageCounter {
             if (!within(row, 0, rows - 1)) {
                 return INDEX;
             }
-            return (missing & 1 << row) != 0 ? NOTHING : 0;
+            return (missing & (1 << row)) != 0 ? NOTHING : 0;
         }
 
         final int squareAt(int row, int column) {
@@ -545,36 +546,29 @@ public final class PostageCounter {
             if (!within(column, 0, columns - 1)) {
                 return INDEX;
             }
-            return (squares & 1L << row * columns + column) != 0 ? face : 0;
+            return (squares & (1L << (row * columns + column))) != 0 ? face : 0;
         }
 
-        @Override
         final Plain without(int n, long squaresTorn) {
             return changed(missing, squares & ~squaresTorn);
         }
 
-        @Override
         final int pieces() {
             return piecesOf(squares);
         }
 
         private int piecesOf(long some) {
-            long firstColumn = 0L;
-            for (int row = 0; row < rows; row++) {
-                firstColumn |= 1L << row * columns;
-            }
             int pieces = 0;
             long left = some;
             for (int i = 0; i < SQUARES && left != 0; i++) {
-                left &= ~pieceFrom(left & -left, left, firstColumn);
+                left &= ~firstPieceOf(left);
                 pieces++;
             }
             return pieces;
         }
 
-        private long pieceFrom(long start, long some, long firstColumn) {
-            long lastColumn = firstColumn << columns - 1;
-            long piece = start;
+        private long firstPieceOf(long some) {
+            long piece = some & -some;
             for (int i = 0; i < SQUARES; i++) {
                 long beside = (piece & ~lastColumn) << 1 | (piece & ~firstColumn) >>> 1;
                 long grown = (piece | beside | piece << columns | piece >>> columns) & some;
@@ -586,18 +580,31 @@ public final class PostageCounter {
             return piece;
         }
 
-        @Override
         final long tearing(int n) {
             int units = n / Math.max(1, together());
             if (units > 2) {
                 return lastUnits(units);
             }
-            // A unit lies in one piece, so each that is torn off makes one piece less at the most.
-            int enough = n >= count ? 0 : Math.max(1, pieces() - units);
+            int enough = pieces() - piecesThatGo(units);
             if (units == 2) {
                 return gentlestTwo(enough);
             }
             return units == 1 ? gentlestOne(0L, 0, enough) : 0L;
+        }
+
+        /** At the most; only pieces that are torn off as a whole make fewer of them. Without this all choices had to be tried. */
+        private int piecesThatGo(int units) {
+            int ofOneUnit = 0;
+            int ofTwoUnits = 0;
+            long left = squares;
+            for (int i = 0; i < SQUARES && left != 0; i++) {
+                long piece = firstPieceOf(left);
+                int size = Long.bitCount(piece);
+                ofOneUnit += size == together() ? 1 : 0;
+                ofTwoUnits += size == 2 * together() ? 1 : 0;
+                left &= ~piece;
+            }
+            return units == 2 && ofOneUnit == 0 && ofTwoUnits > 0 ? 1 : Math.min(ofOneUnit, units);
         }
 
         private long lastUnits(int units) {
@@ -649,25 +656,21 @@ public final class PostageCounter {
             super(face, rows, columns, missing, squares);
         }
 
-        @Override
         int kind() {
             return PAIR;
         }
 
-        @Override
         int together() {
             return 2;
         }
 
-        @Override
         Block changed(int missingNow, long squaresNow) {
             return new Pair(face, rows, columns, missingNow, squaresNow);
         }
 
         /** The columns are even, so a pair's first square is even too. */
-        @Override
         long unitAt(int square) {
-            return square % 2 == 0 ? squares & 3L << square : 0L;
+            return square % 2 == 0 ? squares & (3L << square) : 0L;
         }
 
         int pairAt(int row, int pair) {
@@ -807,7 +810,7 @@ public final class PostageCounter {
         private static int squareAfter(long some, int lesserOnes) {
             int left = lesserOnes;
             for (int square = 0; square < SQUARES; square++) {
-                if ((some & 1L << square) != 0) {
+                if ((some & (1L << square)) != 0) {
                     if (left == 0) {
                         return square;
                     }
@@ -875,7 +878,7 @@ public final class PostageCounter {
         int costOf(int someExtras) {
             int cost = 0;
             for (int k = 0; k < EXTRAS; k++) {
-                if ((someExtras & 1 << k) != 0) {
+                if ((someExtras & (1 << k)) != 0) {
                     cost += extras[k];
                 }
             }

@@ -299,6 +299,14 @@ public final class LettersTest {
         Due.is("23 face 0", x.gone(0), OUTSIDE);
         Due.is("23 face 501", x.gone(501), OUTSIDE);
         Due.is("23 face 500", x.gone(500), 0);
+        PostageCounter z = toPay(30);
+        z.pile(0, 10, 9);
+        z.over(1, 9, 20, 9);
+        Due.is("23 some of both", z.pay(0), 30);
+        Due.is("23 pile", z.gone(10), 1);
+        Due.is("23 over", z.gone(20), 1);
+        Due.is("23 its old face is as it was", z.look(1, 4, 0, 0), 9);
+        Due.is("23 its kind too", z.holding(1, 0), 4);
         PostageCounter y = toPay(3);
         y.reel(3);
         y.reel(1);

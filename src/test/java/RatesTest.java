@@ -81,6 +81,7 @@ public final class RatesTest {
         Due.is("14 above the step", x.price(2, 20.01f, 0), 100);
         Due.is("14 at the last", x.price(2, 50f, 0), 100);
         Due.is("14 above the last", x.price(2, 50.5f, 0), NONE);
+        Due.is("14 above the last with extras", x.price(2, 50.5f, 15), NONE);
         Due.is("14 another way", x.price(1, 1f, 0), NONE);
         int[] cost = {1, 10, 100, 200};
         for (int extras = 0; extras <= 15; extras++) {

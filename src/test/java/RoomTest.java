@@ -1,8 +1,8 @@
 import java.lang.management.ManagementFactory;
 
-/** All calls of a run live in one room, as if nothing were ever thrown away; and none of them takes long. */
+/** All calls of a run live in one room, as if nothing were ever thrown away. */
 public final class RoomTest {
-    /** A hundredth part of the room would be 73,000 fields and elements; a tenth of it is allowed, by 4 bytes each. */
+    /** A tenth part of the room's 7.3 million fields and elements, of 4 bytes each at the least. */
     private static final long MOST_BYTES = 730_000L * 4;
     private static final int CALLS = 512;
 

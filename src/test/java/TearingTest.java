@@ -89,6 +89,16 @@ public final class TearingTest {
         z.lack(0, 1);
         tears(z, "two rows", 2, 0, 1);
         Due.is("still two", z.holding(0, 4), 2);
+        PostageCounter a = withSheet(2, 6, 1);
+        a.lack(0, 2);
+        a.lack(0, 4);
+        tears(a, "the two lone ones behind", 2, 3, 5);
+        PostageCounter b = withSheet(2, 2, 4);
+        for (int square = 0; square < 3; square++) {
+            tears(b, "the first ones", 1, square);
+        }
+        tears(b, "the last ones", 3, 5, 6, 7);
+        Due.is("the end of a row is not beside the beginning of the next", b.holding(0, 4), 2);
     }
 
     private static void threeSquares() {
