@@ -2,7 +2,8 @@ import java.util.Random;
 
 /** Runs of calls by chance (with seeds that are always the same), each answered as the naive counter answers it. */
 public final class NaiveTest {
-    private static final int RUNS = 600, CALLS = 512;
+    /** An object is used for 512 calls at most; after pay() there are some thirty at once. */
+    private static final int RUNS = 700, CALLS = 512 - 30;
 
     private final Random random;
     private final int run;
@@ -11,6 +12,7 @@ public final class NaiveTest {
     private final PostageCounter x = new PostageCounter();
     private final NaiveCounter y = new NaiveCounter();
     private int letters = 0;
+    private int calls = 0;
 
     private NaiveTest(int run) {
         this.run = run;
@@ -24,13 +26,13 @@ public final class NaiveTest {
 
     public static void main(String[] args) {
         for (int run = 0; run < RUNS; run++) {
-            new NaiveTest(run).calls();
+            new NaiveTest(run).callByCall();
         }
         Due.end("NaiveTest");
     }
 
-    private void calls() {
-        for (int i = 0; i < CALLS; i++) {
+    private void callByCall() {
+        while (calls < CALLS) {
             int which = random.nextInt(100);
             if (which < 34) {
                 drawer(which);
@@ -44,6 +46,7 @@ public final class NaiveTest {
     }
 
     private void due(String call, int got, int want) {
+        calls++;
         Due.is("run " + run + ": " + call, got, want);
     }
 
