@@ -42,6 +42,7 @@ public final class EdgeLettersTest {
         payNone();
         payJustEnough();
         payTheLeast();
+        payFromPairsAndOthersAlike();
         payThePriceOf2000();
         theReelPaysNothing();
         printedOverStampsPayTheNewFace();
@@ -51,6 +52,7 @@ public final class EdgeLettersTest {
         toldLess();
         given();
         torn();
+        tornOfThoseThatGive();
         fewest();
         fewestOutsideAndNone();
         least();
@@ -58,6 +60,7 @@ public final class EdgeLettersTest {
         leastOfWhatIsTogether();
         day();
         gone();
+        goneFromStrips();
         Due.end("EdgeLettersTest");
     }
 
@@ -201,6 +204,34 @@ public final class EdgeLettersTest {
                 x.pile(place, 1, 1);
             }
         }), 10, 1, 1, 1, 1, 1, 1, 1, 1, 1, 1);
+    }
+
+    /** Where a choice with one stamp of a pair, or with what another place has, would do. */
+    private static void payFromPairsAndOthersAlike() {
+        given("16 not one square of a pair", toPay(10, x -> {
+            x.sheet(0, 3, 1, 2, 10);
+            x.pile(1, 10, 1);
+        }), 10, 0, 1);
+        given("16 not three squares of pairs", toPay(30, x -> {
+            x.sheet(0, 3, 1, 4, 10);
+            x.pile(1, 10, 3);
+        }), 30, 2, 1);
+        given("16 not one square of a pair, but its two", toPay(10, x -> x.sheet(0, 3, 1, 2, 10)), 20, 2);
+        given("16 both squares rather than a stamp too dear", toPay(20, x -> {
+            x.pile(0, 21, 1);
+            x.sheet(1, 3, 1, 2, 10);
+        }), 20, 0, 2);
+        given("16 most from place 0, of what the others can end", toPay(30, x -> {
+            x.pile(0, 10, 2);
+            x.pile(1, 15, 1);
+            x.pile(2, 5, 1);
+        }), 30, 1, 1, 1);
+        given("16 of a strip not more than pays the sum", toPay(30, x -> {
+            x.reel(25);
+            x.reel(10);
+            x.strip(0);
+            x.pile(1, 20, 1);
+        }), 30, 1, 1);
     }
 
     private static void given(String what, Scene scene, int sum, int... due) {
@@ -411,6 +442,39 @@ public final class EdgeLettersTest {
         Due.is("19 no more", x.torn(0, 128), NONE);
     }
 
+    /** Of sheets of which none is given none is torn off, wherever they are. */
+    private static void tornOfThoseThatGive() {
+        Scene pileAlone = toPay(10, x -> {
+            x.sheet(0, 2, 1, 2, 11);
+            x.pile(1, 10, 1);
+            x.sheet(2, 3, 1, 2, 11);
+            x.pay(0);
+        });
+        pileAlone.same("19 none", x -> x.torn(0, 0), NONE);
+        pileAlone.same("22 the sheets are whole", x -> x.day(5), 4);
+        Scene oneOfFour = toPay(31, x -> {
+            x.sheet(0, 2, 1, 2, 7);
+            x.sheet(1, 3, 1, 2, 8);
+            x.sheet(2, 2, 2, 3, 31);
+            x.sheet(3, 3, 2, 2, 9);
+            x.pay(0);
+        });
+        oneOfFour.same("19 of the one that gives", x -> x.torn(0, 0), 200);
+        oneOfFour.same("19 no more", x -> x.torn(0, 1), NONE);
+        Scene two = toPay(49, x -> {
+            x.sheet(0, 2, 1, 2, 7);
+            x.sheet(1, 3, 1, 2, 9);
+            x.sheet(2, 2, 2, 3, 31);
+            x.sheet(3, 3, 2, 2, 6);
+            x.pay(0);
+        });
+        int[] due = {100, 101, 200, NONE};
+        for (int i = 0; i < due.length; i++) {
+            int it = i;
+            two.same("19 square " + i + " of two sheets that give", x -> x.torn(0, it), due[it]);
+        }
+    }
+
     // ---- 20: "The fewest stamps by which a CHOICE pays just a sum, of what is in the drawer now."
 
     private static void fewest() {
@@ -586,5 +650,43 @@ public final class EdgeLettersTest {
         x.undo();
         Due.is("23 of those that are paid alone", x.gone(17), 0);
         Due.is("23 none of the drawer's", x.gone(1), 0);
+    }
+
+    /** Each stamp of a strip is gone but once, by its own FACE. */
+    private static void goneFromStrips() {
+        Scene twice = new Scene("two letters from a strip", x -> {
+            x.rate(0, 1, 30);
+            x.rate(0, 2, 41);
+            x.letter(0, 1f, 0);
+            x.letter(0, 2f, 0);
+            for (int face : new int[] {5, 20, 21, 20, 10}) {
+                x.reel(face);
+            }
+            x.strip(6);
+            x.pay(0);
+            x.pay(1);
+        });
+        int[][] due = {{5, 0}, {10, 1}, {20, 2}, {21, 1}, {22, 0}};
+        for (int[] one : due) {
+            twice.same("23 face " + one[0], x -> x.gone(one[0]), one[1]);
+        }
+        twice.same("10 its last stamp now", x -> x.holding(6, 2), 5);
+        Scene shorter = new Scene("a strip behind a longer one", x -> {
+            x.rate(0, 1, 3);
+            x.letter(0, 1f, 0);
+            for (int i = 0; i < 40; i++) {
+                x.reel(9);
+            }
+            x.strip(0);
+            x.clear(0);
+            x.reel(2);
+            x.reel(1);
+            x.strip(0);
+            x.pay(0);
+        });
+        shorter.same("23 its first stamp", x -> x.gone(2), 1);
+        shorter.same("23 its last stamp", x -> x.gone(1), 1);
+        shorter.same("23 none of the longer one", x -> x.gone(9), 0);
+        shorter.same("10 none is left", x -> x.holding(0, 1), 0);
     }
 }
