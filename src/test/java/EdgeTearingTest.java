@@ -10,6 +10,7 @@ public final class EdgeTearingTest {
         piecesOfWholeSheets();
         missingRowsPart();
         rowsEndsDoNotHang();
+        rowsEndsDoNotHangInAnyRow();
         cornersDoNotHang();
         oneSquare();
         twoSquares();
@@ -154,6 +155,38 @@ public final class EdgeTearingTest {
         }
         tears("one of 64", z, 1, 54);
         tears("seven of 64", z, 2, fromTo(57, 63));
+    }
+
+    private static void rowsEndsDoNotHangInAnyRow() {
+        for (int rows = 2; rows <= 8; rows++) {
+            for (int row = 0; row <= rows - 2; row++) {
+                for (int columns = 2; columns <= 8; columns++) {
+                    rowsEndDoesNotHang(2, rows, columns, row);
+                    if (columns > 2 && columns % 2 == 0) {
+                        rowsEndDoesNotHang(3, rows, columns, row);
+                    }
+                }
+            }
+        }
+    }
+
+    /** Three rows at most are there; the first square (or pair) is torn off, then all behind that of the next row. */
+    private static void rowsEndDoesNotHang(int kind, int rows, int columns, int row) {
+        PostageCounter x = withSheet(kind, rows, columns);
+        int end = Math.min(rows, row + 3);
+        for (int other = 0; other < rows; other++) {
+            if (other < row || other >= end) {
+                x.lack(0, other);
+            }
+        }
+        int together = kind - 1;
+        int first = columns * row;
+        int behind = first + columns + together;
+        if (columns * end - behind >= 3 * together) {
+            String what = kind + ": " + rows + " x " + columns + ", row " + row;
+            tears(what + ", its beginning", x, 1, fromTo(first, first + together - 1));
+            tears(what + ", all but its end and the next one's beginning", x, 2, fromTo(behind, columns * end - 1));
+        }
     }
 
     private static void cornersDoNotHang() {
